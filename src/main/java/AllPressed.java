@@ -538,7 +538,6 @@ public final class AllPressed {
         int people = 0;
         final int[] callsFrom = new int[MOST_FLOORS];
         final int[] speed = new int[MOST_LIFTS];
-        final int[] stopping = new int[MOST_LIFTS];
         final int[] home = new int[MOST_PEOPLE];
         final int[] load = new int[MOST_PEOPLE];
         final int[] age = new int[MOST_PEOPLE];
@@ -549,7 +548,6 @@ public final class AllPressed {
         final int[] lasting = new int[MOST_LIFTS * MOST_FLOORS * MOST_FLOORS];
 
         void clear() {
-            floors = 2;
             lines = 0;
             lifts = 0;
             people = 0;
@@ -563,7 +561,6 @@ public final class AllPressed {
             people = other.people;
             System.arraycopy(other.callsFrom, 0, callsFrom, 0, MOST_FLOORS);
             System.arraycopy(other.speed, 0, speed, 0, MOST_LIFTS);
-            System.arraycopy(other.stopping, 0, stopping, 0, MOST_LIFTS);
             System.arraycopy(other.home, 0, home, 0, MOST_PEOPLE);
             System.arraycopy(other.load, 0, load, 0, MOST_PEOPLE);
             System.arraycopy(other.age, 0, age, 0, MOST_PEOPLE);
@@ -803,6 +800,7 @@ public final class AllPressed {
         int faultKind = 0;
         int faultPlace = NONE;
         private final Tokens tokens = new Tokens();
+        private final int[] stopping = new int[MOST_LIFTS];
         private final Law footLaw = new Law();
         private final Law stopLaw = new Law();
 
@@ -851,14 +849,14 @@ public final class AllPressed {
             now.lit[l] = 0;
             now.goesUp[l] = 1;
             house.speed[l] = 3;
-            house.stopping[l] = 8;
+            stopping[l] = 8;
             for (int k = 0; k < MOST_BYTES && faultKind == 0 && !tokens.isSign(';'); k++) readLiftFlag(l);
             house.lifts++;
         }
 
         private void readLiftFlag(int l) {
             if (takesWord("speed")) house.speed[l] = expectNumber(1, 60);
-            else if (takesWord("stops")) house.stopping[l] = expectNumber(0, 99);
+            else if (takesWord("stops")) stopping[l] = expectNumber(0, 99);
             else if (takesWord("lit")) readLit(l);
             else if (takesWord("down")) now.goesUp[l] = 0;
             else fail(2);
@@ -1029,7 +1027,7 @@ public final class AllPressed {
             for (int l = 0; l < house.lifts; l++) {
                 for (int f = 0; f < house.floors; f++) {
                     for (int lit = 1; lit < MOST_FLOORS; lit++) {
-                        int seconds = stopLaw.isTold ? stopSeconds(l, f, lit) : house.stopping[l];
+                        int seconds = stopLaw.isTold ? stopSeconds(l, f, lit) : stopping[l];
                         house.lasting[house.lastingAt(l, f, lit)] = seconds;
                     }
                 }

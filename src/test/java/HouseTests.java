@@ -97,6 +97,11 @@ public final class HouseTests {
         faulty(x, "house 3;lift at 0 \u00e9;", 1, 18);
         faulty(x, "house 3;lift at 0\r;", 1, 17);
         faulty(x, "house 3,", 1, 7);
+        faulty(x, "house 3;z;", 2, 8);
+        faulty(x, "house 3;`;", 1, 8);
+        faulty(x, "house 3;{;", 1, 8);
+        faulty(x, "house 3;/;", 1, 8);
+        faulty(x, "house 3;<;", 1, 8);
     }
 
     private static void faultsOfPlaces() {
@@ -150,6 +155,8 @@ public final class HouseTests {
         faulty(x, "house 3;person home 0 worth 100;", 3, 28);
         faulty(x, "house 3;calls 3 times 1;", 3, 14);
         faulty(x, "house 3;calls 2 times 100;", 3, 22);
+        Check.due("3: bounds that can be", Check.tell(x, "house 2;lift at 1 lit 0;person home 0 load 0 age 0 worth 1 at 1;"
+            + "calls 0 times 0;"), 4);
         Check.due("3: bounds that can be", Check.tell(x, "house 12;lift at 11 speed 60 stops 99 lit 0 10;"
             + "lift at 0 speed 1 stops 0;person home 11 load 99 age 99 worth 99 in 1;calls 11 times 99;foot : 999;"), 6);
     }

@@ -12,6 +12,7 @@ public final class LightTests {
         boy();
         parting();
         partingCrowd();
+        partingLights();
         rest();
         nearest();
         Check.end();
@@ -37,6 +38,13 @@ public final class LightTests {
         Check.due("31: with it", z.least(0, 0), 31);
         AllPressed both = Check.with("house 8;lift at 3 lit 2 4 speed 1 stops 0;foot : 10;person home 5 in 0;person home 1 in 0;");
         Check.due("31: both are less", both.least(0, 1), 20);
+        AllPressed like = Check.with("house 4;lift at 2 stops 2 lit 0 1 3;person home 0 in 0;person home 3 in 0;person home 1 in 0;");
+        // By 0 and 1: 8, 10 on foot, 3; by 3: 12 on foot, 3, 6 on foot.
+        Check.due("31: one light ahead of two with less bits", like.least(0, 1), 8);
+        Check.due("31: of like ones", like.least(0, 0), 21);
+        AllPressed two = Check.with("house 6;lift at 4 speed 2 stops 7 lit 0 2 3;person home 0 in 0;person home 1 in 0;");
+        Check.due("31: two lights that are less", two.least(0, 1), 5);
+        Check.due("31: two lights that are less", two.least(0, 0), 15 + 10);
     }
 
     private static void fairest() {
@@ -52,6 +60,10 @@ public final class LightTests {
         // By one light the other still takes 20; by both: 4 at 1, goes at 9, 2 at 11: 21.
         Check.due("32: no light", y.fairest(0, 1), 0);
         Check.due("32: no light", y.fairest(0, 0), 20);
+        AllPressed two = Check.with("house 5;lift at 2 speed 2 stops 0 lit 0 1 3 4;person home 2 in 0;person home 3 in 0;"
+            + "person home 0 in 0;");
+        Check.due("32: two lights", two.fairest(0, 1), 9);
+        Check.due("32: two lights", two.fairest(0, 0), 8);
     }
 
     private static void costs() {
@@ -148,6 +160,27 @@ public final class LightTests {
         // Person 1 came at 10: 10 + 9 for 6 by one, 12 for 7 by the other.
         Check.due("37: not below the second of its people", x.parting(0, 2, 0), 19 + 12);
         Check.due("37: the least set", x.parting(0, 2, 1), 64);
+        AllPressed y = Check.with("house 8;lift at 3 speed 1;lift at 3 speed 1;person home 0 at 3;person home 7 at 3;");
+        Check.due("37: the lowest floor alone", y.parting(0, 1, 1), 1);
+        Check.due("37: the lowest floor alone", y.parting(0, 1, 0), 7);
+        AllPressed z = Check.with("house 8;lift at 3;lift at 3;person home 6 at 2;person home 6 at 5;");
+        z.walks(0, 3);
+        z.walks(1, 0);
+        z.walks(1, 5);
+        Check.due("37: seconds of its people alone", z.parting(0, 1, 0), 10 + 9);
+    }
+
+    /** Laws by which another light would make it less: no light but of homes is lit. */
+    private static void partingLights() {
+        AllPressed x = Check.with("house 10;lift at 0 speed 1;lift at 0 speed 20;"
+            + "stop : (3 - lit) * (floor - 2) * (floor - 2) * 50;person home 1;person home 5;person home 9;");
+        // 1 at 1, goes at 51, 9 at 59; 5 by the other at 100.
+        Check.due("37: homes alone are lit", x.parting(0, 1, 0), 160);
+        Check.due("37: homes alone are lit", x.parting(0, 1, 1), 514);
+        AllPressed y = Check.with("house 6;lift at 1 speed 1 lit 5;lift at 1 speed 60 lit 5;stop : (3 - lit) * 50;"
+            + "person home 2 at 1;person home 4 at 1;");
+        Check.due("37: neither 0 nor what was lit", y.parting(0, 1, 0), 1 + 53);
+        Check.due("37: neither 0 nor what was lit", y.parting(0, 1, 1), 20);
     }
 
     private static void rest() {
