@@ -82,7 +82,7 @@ public final class ModelTests {
         if (ofTray && i == 0) return below(4);
         switch (name) {
             case "lift": case "person": return i == 0 ? below(5) : below(8);
-            case "evenings": return i == 0 ? random.nextInt() : 1 + below(5);
+            case "evenings": return i == 0 ? random.nextInt() : 1 + below(below(4) == 0 ? 41 : 5);
             case "undo": return 1 + below(3);
             case "numbers": return i == 1 ? below(4) : below(20);
             case "write": return i == 1 ? below(16) : number();
