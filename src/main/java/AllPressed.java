@@ -729,7 +729,7 @@ public final class AllPressed {
         }
 
         void join(int operator) {
-            while (top > 0 && stack[top - 1] != OPENED && bindsAtLeast(stack[top - 1], operator)) emit(pop());
+            for (; top > 0 && bindsAtLeast(stack[top - 1], operator); top--) emit(stack[top - 1]);
             push(operator);
         }
 
@@ -740,12 +740,12 @@ public final class AllPressed {
 
         void close() {
             depth--;
-            while (top > 0 && stack[top - 1] != OPENED) emit(pop());
+            for (; top > 0 && stack[top - 1] != OPENED; top--) emit(stack[top - 1]);
             pop();
         }
 
         void finish() {
-            while (top > 0) emit(pop());
+            for (; top > 0; top--) emit(stack[top - 1]);
         }
 
         int seconds() {
@@ -777,7 +777,7 @@ public final class AllPressed {
         }
 
         private static boolean bindsAtLeast(int earlier, int later) {
-            return earlier == TIMES || later != TIMES;
+            return earlier != OPENED && (earlier == TIMES || later != TIMES);
         }
 
         private void emit(int step) {
@@ -1188,7 +1188,7 @@ public final class AllPressed {
         }
 
         private int doNumber(Now now, long v) {
-            if (v < 0 || v > 5999) return 1;
+            if (v < 0 || v > 5799) return 1;
             int rest = (int) (v % 1000);
             switch ((int) (v / 1000)) {
                 case 0: return lightOn(now, rest / 100, rest % 100);
