@@ -12,8 +12,10 @@ import java.util.regex.Pattern;
 final class Doc {
     /** The number of the part "Terms"; promises have their own numbers. */
     static final int TERMS = 0;
+    /** The number of the part "What it is". */
+    static final int WHAT_IT_IS = -1;
 
-    private static final Pattern HEADING = Pattern.compile("## (?:Promise (\\d+)|(Terms)).*");
+    private static final Pattern HEADING = Pattern.compile("## (?:Promise (\\d+): .*|Terms|What it is)");
     private static final Pattern BOUND = Pattern.compile("NONE|\\d+|at most|at least|lowest|like ones|eldest|nobody"
         + "|nothing|empty|stays?\\b|MISSING|below|above|instead|alone|strikes?\\b|first|later?\\b|more than|all ahead");
     private static final Map<Integer, String> TEXTS = new TreeMap<>();
@@ -39,10 +41,11 @@ final class Doc {
             String[] parts = part.split("\n", 2);
             Matcher heading = HEADING.matcher(parts[0]);
             if (!heading.matches()) continue;
-            int number = heading.group(2) != null ? TERMS : Integer.parseInt(heading.group(1));
+            int unnumbered = parts[0].equals("## Terms") ? TERMS : WHAT_IT_IS;
+            int number = heading.group(1) == null ? unnumbered : Integer.parseInt(heading.group(1));
             String text = parts[1].replaceAll("```(text)?", " ").replaceAll("==== \\d+\\.", " ").replaceAll("\\s+", " ");
             // A promise begins with its call, as code.
-            TEXTS.put(number, number == TERMS ? text : text.replaceFirst("`[^`]*`: ", ""));
+            TEXTS.put(number, number <= TERMS ? text : text.replaceFirst("`[^`]*`: ", ""));
             TESTED.put(number, new BitSet());
         }
     }

@@ -88,6 +88,8 @@ final class EdgesOfHouse {
         Check.feed(x, "house 3;lift at 2;boy;#");
         Doc.due("the first 18", x.house(18), 2);
         Doc.due("a lift", x.count(1), 1);
+        cutAfter("house 12;lift at 3;", new int[][] {{4, 2, 0}, {5, 2, 5}, {6, 2, 6}, {7, 3, 6}, {8, 2, 8}, {12, 2, 9}, {13, 2, 13}, {18, 2, 18}});
+        cutAfter("house 12;lift at 1234;", new int[][] {{18, 2, 18}, {19, 3, 17}, {20, 3, 17}, {21, 1, 17}, {22, 1, 17}});
         Check.feed(x, "house 4;");
         Doc.due("all of them", x.house(20), 1);
         Doc.due("none of them", x.house(0), -32);
@@ -103,6 +105,16 @@ final class EdgesOfHouse {
         Doc.due("another", Check.tell(x, "house 2;lift at 0;person home 0;"), 3);
         Doc.due("nothing can be undone", x.count(6), 0);
         Doc.due("nothing can be undone", x.undo(1), -3);
+    }
+
+    /** Each row: so many bytes of the text, the fault and its place; what lies behind them on the tape is no part of the text. */
+    private static void cutAfter(String text, int[][] rows) {
+        for (int[] row : rows) {
+            AllPressed x = new AllPressed();
+            Check.feed(x, text);
+            Doc.due("house " + row[0], x.house(row[0]), -30 - row[1]);
+            Doc.due("its place", x.fault(1), row[2]);
+        }
     }
 
     /** Nothing of an earlier house stays: flags, calls, laws, lights, seconds. */

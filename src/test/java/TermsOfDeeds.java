@@ -7,6 +7,7 @@ final class TermsOfDeeds {
     private TermsOfDeeds() {}
 
     static void run() {
+        calls512();
         seconds();
         whoIsInIt();
         nextStop();
@@ -23,6 +24,16 @@ final class TermsOfDeeds {
         undoneAsAWhole();
         undoneTen();
         undoneAcrossTheRing();
+    }
+
+    private static void calls512() {
+        Doc.says(Doc.WHAT_IT_IS, "An object is used for at most 512 calls after it has been made; what later calls answer is free.");
+        AllPressed x = Check.with("house 2;person home 0;");
+        // Two were to feed, one to read; up takes 10, down 6.
+        for (int call = 4; call <= 512; call++) {
+            int walk = call - 3;
+            Doc.due("call " + call, x.walks(0, walk % 2), walk * 8 + walk % 2 * 2);
+        }
     }
 
     private static void seconds() {

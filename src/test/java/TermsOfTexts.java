@@ -32,6 +32,8 @@ final class TermsOfTexts {
         Doc.due("its last line", Check.with(full).lift(0, 0), 11);
         Doc.faulty(full.substring(0, 899) + "#", 1, 899);
         Doc.faulty(full.substring(0, 899) + " ", 2, 900);
+        Doc.faulty("house 12;" + " ".repeat(887) + "lift", 2, 900);
+        Doc.faulty("house" + " ".repeat(894) + "2", 2, 900);
         Doc.reads("house 2;" + "lift at 0;".repeat(3) + "foot:1;".repeat(123) + " ", 127);
         AllPressed x = new AllPressed();
         Doc.due("floors without one", x.count(0), 2);
