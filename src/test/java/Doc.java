@@ -17,7 +17,8 @@ final class Doc {
 
     private static final Pattern HEADING = Pattern.compile("## (?:Promise (\\d+): .*|Terms|What it is)");
     private static final Pattern BOUND = Pattern.compile("NONE|\\d+|at most|at least|lowest|like ones|eldest|nobody"
-        + "|nothing|empty|stays?\\b|MISSING|below|above|instead|alone|strikes?\\b|first|later?\\b|more than|all ahead");
+        + "|nothing|none\\b|never|nor\\b|not\\b|n't\\b|no such|empty|stays?\\b|MISSING|below|above|instead|alone|strikes?\\b|first|later?\\b"
+        + "|latest|nearest|soonest|fewest|greatest|most even|least|more than|as far as|if it can|without");
     private static final Map<Integer, String> TEXTS = new TreeMap<>();
     private static final Map<Integer, BitSet> TESTED = new TreeMap<>();
 
@@ -44,8 +45,8 @@ final class Doc {
             int unnumbered = parts[0].equals("## Terms") ? TERMS : WHAT_IT_IS;
             int number = heading.group(1) == null ? unnumbered : Integer.parseInt(heading.group(1));
             String text = parts[1].replaceAll("```(text)?", " ").replaceAll("==== \\d+\\.", " ").replaceAll("\\s+", " ");
-            // A promise begins with its call, as code.
-            TEXTS.put(number, number <= TERMS ? text : text.replaceFirst("`[^`]*`: ", ""));
+            // A promise begins with its call, as code; the Terms end with which calls stand under which heading.
+            TEXTS.put(number, number <= TERMS ? text.replaceFirst("Ahead of the calls .*", "") : text.replaceFirst("`[^`]*`: ", ""));
             TESTED.put(number, new BitSet());
         }
     }

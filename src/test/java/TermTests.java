@@ -5,7 +5,7 @@ public final class TermTests {
         TermsOfDeeds.run();
         TermsOfPlans.run();
         TermsOfRefusals.run();
-        Doc.noneLeft(Doc.WHAT_IT_IS, Doc.TERMS);
+        Doc.noneLeft(Doc.TERMS, Doc.TERMS);
         Check.end();
     }
 }
